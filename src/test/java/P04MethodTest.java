@@ -21,11 +21,7 @@ public final class P04MethodTest {
             x.size(false, 40);
             x.open(0, 0);
             Check.giveRow(x, 0, 255, 255, 255, 255, 255);
-            if (m == 2) {
-                Check.giveRow(x, m, 0, 7);
-            } else {
-                Check.giveRow(x, m, 1, 7, 0, 9);
-            }
+            Check.giveRow(x, m, 1, 7, 0, 9);
             CHECK.seedIs("method " + m, x, due[m]);
         }
     }
