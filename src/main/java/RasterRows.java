@@ -27,7 +27,7 @@ public final class RasterRows {
 
     public RasterRows(int width, int height, int dpi) {
         this.dpi = dpi >= 300 ? 300 : dpi >= 150 ? 150 : 75;
-        sheet = new Sheet(sideOf(width), sideOf(height));
+        sheet = new Sheet(width, height);
         raster = new Raster();
         packed = new Packed();
         resolution = 75;
@@ -377,9 +377,9 @@ public final class RasterRows {
         boolean overrun = false;
         int blackDots = 0;
 
-        Sheet(int across, int down) {
-            this.across = across;
-            this.down = down;
+        Sheet(int width, int height) {
+            across = sideOf(width);
+            down = sideOf(height);
             lines = new Line[down];
             stripe = new Line(across);
         }
@@ -466,7 +466,10 @@ public final class RasterRows {
         void blacken(int from, int n) {
             int end = Math.min(from + n, dots);
             for (int x = Math.max(from, 0); x < end; x++) {
-                words[x >> 6] |= bitOf(x);
+                int k = x >> 6;
+                if (k < words.length) {
+                    words[k] |= bitOf(x);
+                }
             }
         }
 

@@ -11,29 +11,73 @@ public final class P12BlackTest {
         for (int y = 0; y < 3; y++) {
             for (int dot = 0; dot < 70; dot++) {
                 boolean due = y == 1 && (dot == 1 || dot == 63 || dot == 64 || dot == 66 || dot == 69);
-                CHECK.same("black(" + dot + ", " + y + ")", x.black(dot, y) ? 1 : 0, due ? 1 : 0);
+                CHECK.same("black(" + dot + ", " + y + ")", Check.bit(x.black(dot, y)), Check.bit(due));
             }
         }
     }
 
-    private static void outside() {
+    private static void corners() {
+        for (int[] side : new int[][] {{1, 1}, {70, 3}, {64, 2}, {5100, 2}}) {
+            RasterRows x = new RasterRows(side[0], side[1], 75);
+            int right = side[0] - 1;
+            int low = side[1] - 1;
+            CHECK.no("white, upper left", x.black(0, 0));
+            CHECK.no("white, lower right", x.black(right, low));
+            x.open(0, 0);
+            Check.giveRow(x, 1, 255, 255, 255, 255, 127, 255);
+            x.method(3);
+            x.row();
+            x.row();
+            CHECK.yes("upper left", x.black(0, 0));
+            CHECK.yes("upper right", x.black(right, 0));
+            CHECK.yes("lower left", x.black(0, low));
+            CHECK.yes("lower right", x.black(right, low));
+        }
+    }
+
+    private static void outside(RasterRows x, int dot, int y) {
+        CHECK.fails("black(" + dot + ", " + y + ")", IndexOutOfBoundsException.class, () -> Check.bit(x.black(dot, y)));
+    }
+
+    private static RasterRows drawn() {
         RasterRows x = new RasterRows(70, 3, 75);
-        int[] wrongAcross = {-1, 70, 71, 127, 128, Integer.MIN_VALUE, Integer.MAX_VALUE};
-        int[] wrongDown = {-1, 3, 4, Integer.MIN_VALUE, Integer.MAX_VALUE};
-        for (int dot : wrongAcross) {
-            CHECK.fails("black(" + dot + ", 0)", IndexOutOfBoundsException.class, () -> x.black(dot, 0));
+        x.open(0, 0);
+        Check.giveRow(x, 1, 255, 255);
+        return x;
+    }
+
+    private static void leftAndRight() {
+        for (RasterRows x : new RasterRows[] {drawn(), new RasterRows(70, 3, 75)}) {
+            for (int dot : new int[] {-1, -2, 70, 71, 127, 128, 5100, Integer.MIN_VALUE, Integer.MAX_VALUE}) {
+                outside(x, dot, 0);
+                outside(x, dot, 2);
+            }
         }
-        for (int y : wrongDown) {
-            CHECK.fails("black(0, " + y + ")", IndexOutOfBoundsException.class, () -> x.black(0, y));
-            CHECK.fails("black(-1, " + y + ")", IndexOutOfBoundsException.class, () -> x.black(-1, y));
+    }
+
+    private static void aboveAndBelow() {
+        for (RasterRows x : new RasterRows[] {drawn(), new RasterRows(70, 3, 75)}) {
+            for (int y : new int[] {-1, -2, 3, 4, 5100, Integer.MIN_VALUE, Integer.MAX_VALUE}) {
+                outside(x, 0, y);
+                outside(x, 69, y);
+            }
         }
-        CHECK.no("black(0, 0)", x.black(0, 0));
-        CHECK.no("black(69, 2)", x.black(69, 2));
+    }
+
+    private static void bothOutside() {
+        for (int dot : new int[] {-1, 70, Integer.MIN_VALUE, Integer.MAX_VALUE}) {
+            for (int y : new int[] {-1, 3, Integer.MIN_VALUE, Integer.MAX_VALUE}) {
+                outside(drawn(), dot, y);
+            }
+        }
     }
 
     public static void main(String[] args) {
-        eachDot();
-        outside();
+        CHECK.sentence("Whether a dot is black.", P12BlackTest::eachDot);
+        CHECK.sentence("Whether a dot is black: the corners", P12BlackTest::corners);
+        CHECK.sentence("IndexOutOfBoundsException if it is none of the sheet's: x", P12BlackTest::leftAndRight);
+        CHECK.sentence("IndexOutOfBoundsException if it is none of the sheet's: y", P12BlackTest::aboveAndBelow);
+        CHECK.sentence("IndexOutOfBoundsException if it is none of the sheet's: both", P12BlackTest::bothOutside);
         CHECK.finish();
     }
 }
