@@ -25,13 +25,14 @@ public final class P06DataTest {
         for (int n = 1; n <= 8; n++) {
             RasterRows minus = rowOf(-1, n);
             RasterRows zero = rowOf(0, n);
-            RasterRows highest = rowOf(Long.MIN_VALUE, n);
-            RasterRows lowest = rowOf(Long.MAX_VALUE, n);
+            RasterRows least = rowOf(Long.MIN_VALUE, n);
+            RasterRows most = rowOf(Long.MAX_VALUE, n);
             for (int i = 0; i < 9; i++) {
                 CHECK.same("-1, byte " + i + " of " + n, minus.seed(i), i < n ? 255 : 0);
                 CHECK.same("0, byte " + i + " of " + n, zero.seed(i), 0);
-                CHECK.same("MIN_VALUE, byte " + i + " of " + n, highest.seed(i), n == 8 && i == 0 ? 128 : 0);
-                CHECK.same("MAX_VALUE, byte " + i + " of " + n, lowest.seed(i), i >= n ? 0 : n == 8 && i == 0 ? 127 : 255);
+                CHECK.same("MIN_VALUE, byte " + i + " of " + n, least.seed(i), n == 8 && i == 0 ? 128 : 0);
+                int due = i >= n ? 0 : n == 8 && i == 0 ? 127 : 255;
+                CHECK.same("MAX_VALUE, byte " + i + " of " + n, most.seed(i), due);
             }
         }
     }

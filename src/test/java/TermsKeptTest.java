@@ -50,7 +50,7 @@ public final class TermsKeptTest {
         }
     }
 
-    private static void bytesToTheLastBlackOne() {
+    private static void bytesToTheLast() {
         RasterRows x = opened(0);
         Check.giveRow(x, 0, 1);
         kept("the first byte", x, 1, 1);
@@ -242,7 +242,7 @@ public final class TermsKeptTest {
         CHECK.sentence("A row that has a black dot .. is KEPT", TermsKeptTest::oneBlackDot);
         CHECK.sentence("A row that has [no] black dot", TermsKeptTest::noBlackDot);
         CHECK.sentence("(not counting those from WIDTH on)", TermsKeptTest::fromWidthOnNotCounted);
-        CHECK.sentence("with as many bytes as reach to its last one with such a dot", TermsKeptTest::bytesToTheLastBlackOne);
+        CHECK.sentence("with as many bytes as reach to its last one with such a dot", TermsKeptTest::bytesToTheLast);
         CHECK.sentence("KEPT: outside the sheet, too", TermsKeptTest::outsideTheSheet);
         CHECK.sentence("KEPT: of all rasters", TermsKeptTest::severalRasters);
         room();

@@ -137,6 +137,7 @@ public final class TermsUnpackTest {
 
     private static void literals() {
         unpacks(2, bytes(0, 5, 0, 6), 5, 6, 0);
+        unpacks(2, bytes(0, 5, 1, 6, 7, 0, 8, 1, 3, 4), 5, 6, 7, 8, 3, 4, 0);
         unpacks(2, bytes(2, 5, 6, 7, 0, 8), 5, 6, 7, 8, 0);
         unpacks(2, bytes(2, 128, 129, 255, 0, 8), 128, 129, 255, 8, 0);
     }
@@ -168,6 +169,8 @@ public final class TermsUnpackTest {
         unpacks(2, bytes(255, 5), 5, 5, 0);
         unpacks(2, bytes(254, 5, 255, 6), 5, 5, 5, 6, 6, 0);
         unpacks(2, bytes(255, 0, 0, 6), 0, 0, 6, 0);
+        unpacks(2, bytes(255, 5, 254, 6, 255, 7, 255, 8), 5, 5, 6, 6, 6, 7, 7, 8, 8, 0);
+        unpacks(2, bytes(0, 5, 255, 6, 1, 7, 8, 255, 3, 0, 4), 5, 6, 6, 7, 8, 3, 3, 4, 0);
         RasterRows x = opened(0, 9);
         Check.giveRow(x, 2, 129, 5, 0, 7);
         CHECK.same("the last of 128", x.seed(127), 5);
